@@ -450,9 +450,6 @@ public final class RingPlanes {
 
     /** What holds in a ring, and the elements by which it does not. */
     private static final class Laws {
-        private Laws() {
-        }
-
         /** The first witness (a, b, c) against a law as one number, or NONE. */
         static int witness(Ring ring, int law) {
             int lastB = law > 1 ? ring.size : 1;
@@ -546,7 +543,11 @@ public final class RingPlanes {
         }
     }
 
-    /** The points and lines of a ring. The rows of points and of lines are in order, lowest first. */
+    /**
+     * The points and lines of a ring. The points of a line and the lines of a point come lowest first.
+     * By their numbers the last line is a line [n] of points (n, m), which stand for (m), and the
+     * last point is a point (n) on lines [n, c], which stand for [c]: neither needs code of its own.
+     */
     private static final class Plane {
         final Ring ring;
 
@@ -572,16 +573,13 @@ public final class RingPlanes {
                 return false;
             }
             int beyond = n * n;
-            if (line < beyond) {
-                int m = line / n;
-                return point < beyond
-                        ? point % n == ring.sum(ring.times(point / n, m), line % n)
-                        : point == beyond + m;
+            if (line >= beyond) {
+                return point / n == line - beyond || point == beyond + n;
             }
-            if (line < beyond + n) {
-                return point < beyond ? point / n == line - beyond : point == beyond + n;
-            }
-            return point >= beyond;
+            int m = line / n;
+            return point < beyond
+                    ? point % n == ring.sum(ring.times(point / n, m), line % n)
+                    : point == beyond + m;
         }
 
         int pointOf(int line, int index) {
@@ -590,14 +588,11 @@ public final class RingPlanes {
                 return NONE;
             }
             int beyond = n * n;
-            if (line < beyond) {
-                int m = line / n;
-                return index < n ? n * index + ring.sum(ring.times(index, m), line % n) : beyond + m;
-            }
-            if (line < beyond + n) {
+            if (line >= beyond) {
                 return index < n ? n * (line - beyond) + index : beyond + n;
             }
-            return beyond + index;
+            int m = line / n;
+            return index < n ? n * index + ring.sum(ring.times(index, m), line % n) : beyond + m;
         }
 
         int lineThrough(int point, int index) {
@@ -606,14 +601,11 @@ public final class RingPlanes {
                 return NONE;
             }
             int beyond = n * n;
-            if (point < beyond) {
-                int x = point / n;
-                return index < n ? n * index + ring.difference(point % n, ring.times(x, index)) : beyond + x;
-            }
-            if (point < beyond + n) {
+            if (point >= beyond) {
                 return index < n ? n * (point - beyond) + index : beyond + n;
             }
-            return beyond + index;
+            int x = point / n;
+            return index < n ? n * index + ring.difference(point % n, ring.times(x, index)) : beyond + x;
         }
 
         int lineOf(int one, int other) {
@@ -724,8 +716,8 @@ public final class RingPlanes {
         }
 
         private void layRays(Plane plane, int axis, int centre) {
-            end = Math.min(plane.points(), MOST_POINTS);
-            for (int point = 0; point < end; point++) {
+            end = plane.points();
+            for (int point = 0; point < end && point < MOST_POINTS; point++) {
                 boolean free = point != centre && !plane.isOn(point, axis);
                 rays[point] = free ? plane.lineOf(centre, point) : NONE;
                 images[point] = point;
@@ -737,14 +729,14 @@ public final class RingPlanes {
             int base = lowestFree(NONE);
             baseRay = rayOf(base);
             helper = lowestFree(baseRay);
-            for (int point = 0; point < end; point++) {
+            for (int point = 0; point < end && point < MOST_POINTS; point++) {
                 int seenFrom = rays[point] == baseRay ? helper : base;
                 feet[point] = rays[point] == NONE ? NONE : plane.meetOf(plane.lineOf(seenFrom, point), axis);
             }
         }
 
         private int lowestFree(int leftOutRay) {
-            for (int point = 0; point < end; point++) {
+            for (int point = 0; point < end && point < MOST_POINTS; point++) {
                 if (rayOf(point) != NONE && rayOf(point) != leftOutRay) {
                     return point;
                 }
@@ -773,7 +765,7 @@ public final class RingPlanes {
 
         /** Finds the images of the free points of the base's ray, or of all others. */
         private void lead(Plane plane, boolean onBaseRay, int seenFrom) {
-            for (int point = 0; point < end; point++) {
+            for (int point = 0; point < end && point < MOST_POINTS; point++) {
                 if (rays[point] != NONE && (rays[point] == baseRay) == onBaseRay) {
                     images[point] = plane.meetOf(rays[point], plane.lineOf(feet[point], seenFrom));
                 }

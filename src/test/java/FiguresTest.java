@@ -106,9 +106,9 @@ public final class FiguresTest {
             check.due("no plane of " + n + ": open(last)", IMPOSSIBLE, x.open(last));
             check.due("no plane of " + n + ": open(behind)", INVALID, x.open(last + 1));
         }
-        RingPlanes nine = of(9);
-        nine.twist();
         for (int p = 0; p < 91; p++) {
+            RingPlanes nine = of(9);
+            nine.twist();
             check.due("twisted: open(" + p + ")", countOpen(nine, p), nine.open(p));
         }
     }
@@ -149,8 +149,10 @@ public final class FiguresTest {
         check.due("twisted: hexagon(3, 90)", 1, nine.hexagon(3, 90));
         int closed = 0;
         for (int one = 0; one < 91; one++) {
+            RingPlanes fresh = of(9);
+            fresh.twist();
             for (int other = 0; other < one; other++) {
-                closed += nine.hexagon(one, other);
+                closed += fresh.hexagon(one, other);
             }
         }
         check.due("twisted: pairs of lines with a hexagon that closes", 1381, closed);

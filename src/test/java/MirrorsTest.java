@@ -23,9 +23,9 @@ public final class MirrorsTest {
     /** In the plane of a field each map that could be a mirror is one: n with a point of the line, else n - 1. */
     private void fields() {
         for (int n : new int[] {2, 3, 4, 5, 7, 9}) {
-            RingPlanes x = of(n);
             int numbers = n * n + n + 1;
             for (int line = 0; line < numbers; line += n < 5 ? 1 : 7) {
+                RingPlanes x = of(n);
                 for (int point = 0; point < numbers; point += n < 5 ? 1 : 5) {
                     String call = n + ": mirrors(" + line + ", " + point + ")";
                     check.due(call, n - 1 + x.on(point, line), x.mirrors(line, point));
@@ -42,8 +42,10 @@ public final class MirrorsTest {
         }
         int[] found = new int[10];
         for (int line = 0; line < 91; line++) {
+            RingPlanes fresh = of(9);
+            fresh.twist();
             for (int point = 0; point < 91; point++) {
-                found[x.mirrors(line, point)]++;
+                found[fresh.mirrors(line, point)]++;
             }
         }
         check.due("pairs with the fixed map alone", 8100, found[1]);
@@ -59,15 +61,15 @@ public final class MirrorsTest {
 
     /** Rows that are shifted and change places lead to the same plane with other numbers. */
     private void shifted() {
-        RingPlanes x = of(5);
-        for (int b = 0; b < 5; b++) {
-            int of1 = x.by(1, b, 2);
-            x.product(1, b, x.by(3, b, 2));
-            x.product(3, b, (of1 + 2) % 5);
-        }
-        check.due("shifted: plane(0)", 1, x.plane(0));
-        check.due("shifted: law(0, 0)", 0, x.law(0, 0));
         for (int line = 0; line < 31; line++) {
+            RingPlanes x = of(5);
+            for (int b = 0; b < 5; b++) {
+                int of1 = x.by(1, b, 2);
+                x.product(1, b, x.by(3, b, 2));
+                x.product(3, b, (of1 + 2) % 5);
+            }
+            check.due("shifted: plane(0)", 1, x.plane(0));
+            check.due("shifted: law(0, 0)", 0, x.law(0, 0));
             for (int point = 0; point < 31; point++) {
                 String call = "shifted: mirrors(" + line + ", " + point + ")";
                 check.due(call, 4 + x.on(point, line), x.mirrors(line, point));

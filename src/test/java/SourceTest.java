@@ -11,7 +11,7 @@ public final class SourceTest {
     private static final String[] RULED_OUT = {"import", "package", "try", "catch", "finally", "throw", "throws",
         "synchronized", "assert", "Object", "Override", "super", "protected", "double", "volatile", "Float", "Arrays"};
     private static final Pattern LIBRARY = Pattern.compile("\\b(System|Math|Integer|Long|String)\\.(\\w+)");
-    private static final List<String> ALLOWED = List.of("System.arraycopy", "Math.min", "Integer.bitCount");
+    private static final List<String> ALLOWED = List.of("System.arraycopy", "Integer.bitCount");
     private static final int LONGEST_METHOD = 60;
 
     private final Check check = new Check("SourceTest");
