@@ -1,15 +1,15 @@
 import com.sun.management.ThreadMXBean;
 import java.lang.management.ManagementFactory;
 
-/** The room of a run: an object is small, and none of its calls makes anything. */
+/** All calls of one run live in one room: what a run of the dearest calls makes, in bytes. */
 public final class RoomTest {
-    private static final int OBJECTS = 100;
-    /** Room in bytes that the machine itself may use up meanwhile. */
-    private static final long SLACK = 20000;
+    private static final int CALLS = 512;
+    /** Some 600,000 objects with 7.3 million fields and elements of four bytes. */
+    private static final long ROOM = 600000L * 16 + 7300000L * 4;
 
     private final Check check = new Check("RoomTest");
     private final ThreadMXBean threads = (ThreadMXBean) ManagementFactory.getThreadMXBean();
-    private final RingPlanes[] kept = new RingPlanes[OBJECTS];
+    private final RingPlanes[] kept = new RingPlanes[CALLS];
 
     public static void main(String[] args) {
         new RoomTest().all();
@@ -22,40 +22,53 @@ public final class RoomTest {
     private void all() {
         used();
         long before = used();
-        for (int k = 0; k < OBJECTS; k++) {
+        for (int k = 0; k < CALLS; k++) {
             kept[k] = new RingPlanes();
         }
-        check.holds("room of " + OBJECTS + " objects", used() - before < OBJECTS * 5000L + SLACK);
-        mix(kept[0]);
-        before = used();
-        for (int k = 1; k < 4; k++) {
-            mix(kept[k]);
+        fits("room of " + CALLS + " objects", before);
+        for (int kind = 0; kind < 8; kind++) {
+            RingPlanes x = kept[kind];
+            x.field(9);
+            x.twist();
+            before = used();
+            for (int call = 3; call <= CALLS; call++) {
+                dear(x, kind, call % 91);
+            }
+            fits("room of calls of kind " + kind, before);
         }
-        check.holds("room of 3 times 512 calls", used() - before < SLACK);
         check.end();
     }
 
-    private static void mix(RingPlanes x) {
-        x.field(9);
-        x.twist();
-        for (int turn = 0; turn < 30; turn++) {
-            x.mirrors(turn, 90 - turn);
-            x.open(turn);
-            x.hexagon(turn, 90 - turn);
-            x.triangles(turn, 0, 3, 9, 1, 2);
-            x.law(2, 1);
-            x.share();
-            x.elements(turn % 3);
-            x.plane(turn % 3);
-            x.join(turn, 90 - turn, turn % 2);
-            x.at(turn, turn % 2, 5);
-            x.type('1');
-            x.fault(0);
-            x.play();
-            x.product(turn % 9, 3, 3);
-            x.exchange();
-            x.undo();
-            x.undo();
+    private void fits(String what, long before) {
+        check.holds(what, used() - before < ROOM);
+    }
+
+    private static void dear(RingPlanes x, int kind, int k) {
+        switch (kind) {
+            case 0:
+                x.mirrors(k, 90 - k);
+                break;
+            case 1:
+                x.open(k);
+                break;
+            case 2:
+                x.hexagon(k, (k + 7) % 91);
+                break;
+            case 3:
+                x.triangles(k, 0, 3, 9, 1, 2);
+                break;
+            case 4:
+                x.plane(k % 3);
+                break;
+            case 5:
+                x.share();
+                break;
+            case 6:
+                x.product(k % 9, k % 7, k % 9);
+                break;
+            default:
+                x.play();
+                break;
         }
     }
 }
